@@ -617,15 +617,19 @@ public final class SceneEasel {
         private Node topInside(double a, double b) {
             double c = mode == TILES ? inTile(a) : a;
             double d = mode == TILES ? inTile(b) : b;
+            if (mode == MASK && !firstHas(c, d)) {
+                return null;
+            }
             int lowest = mode == MASK ? 1 : 0;
             Node found = null;
             for (int k = children.size() - 1; k >= lowest && found == null; k--) {
                 found = children.get(k).topAt(c, d);
             }
-            if (mode == MASK && found != null && children.get(0).topAt(c, d) == null) {
-                return null;
-            }
             return found;
+        }
+
+        private boolean firstHas(double a, double b) {
+            return !children.isEmpty() && children.get(0).topAt(a, b) != null;
         }
 
         private double inTile(double a) {

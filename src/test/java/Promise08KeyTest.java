@@ -21,6 +21,7 @@ final class Promise08KeyTest {
         check.due("y is as set", easel.around(1, 1, 3.0), 60.0);
         check.due("key(1, 0, 6.0, 2.0)", easel.key(1, 0, 6.0, 2.0), 2);
         check.due("key(1, 0, 9.0, -1.0)", easel.key(1, 0, 9.0, -1.0), 3);
+        check.due("three frames, before them", easel.around(1, 0, 1.0), 1.0);
         check.due("a third of the way up", easel.around(1, 0, 4.0), 1.0 + 21.0 / 64.0);
         check.due("two thirds of the way up", easel.around(1, 0, 5.0), 1.0 + 42.0 / 64.0);
         check.due("at the middle frame", easel.around(1, 0, 6.0), 2.0);
@@ -121,6 +122,12 @@ final class Promise08KeyTest {
         whole.key(1, 0, 0.0, -100.0);
         whole.key(1, 0, 1000.0, 100.0);
         check.due("at a quarter of all time", whole.around(1, 0, 250.0), -50.0);
+        for (double span : new double[] {0.0625, 1e-9, 1e-300}) {
+            SceneEasel close = Scenes.shape(1, 1.0, 1.0);
+            close.key(1, 0, 0.0, 1.0);
+            close.key(1, 0, span, 2.0);
+            check.due("half of the way in a span of " + span, close.around(1, 0, span / 2.0), 1.5);
+        }
     }
 
     private static void wrongInputs(Check check) {

@@ -26,6 +26,10 @@ final class Promise09UnkeyTest {
         check.due("count(1)", easel.count(1), 0);
         check.due("key behind unkey", easel.key(1, 0, 5.0, 1.0), 1);
         check.due("none of the old ones came back", easel.around(1, 0, 1.0), 1.0);
+        SceneEasel again = Scenes.mixed();
+        again.unkey(2, 0);
+        again.key(2, 0, 5.0, 3.0);
+        check.due("behind the new one alone", again.around(2, 0, 7.0), 3.0);
         check.nothingThere(Scenes::mixed, "unkey(2, 1)", e -> e.unkey(2, 1));
         check.nothingThere(Scenes::mixed, "unkey(2, 2)", e -> e.unkey(2, 2));
         check.nothingThere(Scenes::mixed, "unkey(1, 0)", e -> e.unkey(1, 0));

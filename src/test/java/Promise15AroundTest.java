@@ -2,7 +2,9 @@ final class Promise15AroundTest {
     public static void main(String[] args) {
         Check check = new Check("promise 15, around");
         shapes(check);
+        zeros(check);
         groups(check);
+        joined(check);
         hidden(check);
         modesDoNotMatter(check);
         none(check);
@@ -26,6 +28,41 @@ final class Promise15AroundTest {
         SceneEasel wedge = Scenes.shape(3, 2.0, 5.0);
         wedge.lay(1, 2, 1);
         check.box(wedge, 1, 0.0, -4.0, -10.0, 0.0, 0.0);
+    }
+
+    /** A zero that is told has no sign, whatever was set and however it is turned. */
+    private static void zeros(Check check) {
+        SceneEasel easel = Scenes.shape(1, 1.0, 1.0);
+        easel.place(1, -0.0, -0.0);
+        double[][] boxes = {{0.0, 0.0, 1.0, 1.0}, {-1.0, 0.0, 0.0, 1.0}, {-1.0, -1.0, 0.0, 0.0}, {0.0, -1.0, 1.0, 0.0}};
+        for (int turn = 0; turn < 4; turn++) {
+            easel.lay(1, turn, -1);
+            easel.lengths(1, 2.0, 2.0);
+            check.box(easel, 1, 0.0, boxes[turn]);
+            check.box(easel, 0, 0.0, boxes[turn]);
+        }
+        easel.lay(1, 2, -1);
+        easel.key(1, 0, 0.0, -0.0);
+        check.box(easel, 1, 0.0, boxes[2]);
+    }
+
+    /** Each of the boxes reaches out on one side alone. */
+    private static void joined(Check check) {
+        double[][] places = {{0.0, 0.0}, {-0.5, 0.5}, {0.5, -0.75}, {1.5, 0.5}, {0.5, 1.25}};
+        double[] sides = {0.0, 0.0, 2.0, 2.0};
+        SceneEasel easel = new SceneEasel();
+        for (int k = 0; k < places.length; k++) {
+            easel.node(0, 1, 1);
+            easel.place(k + 1, places[k][0], places[k][1]);
+            easel.lengths(k + 1, k == 0 ? 2.0 : 1.0, k == 0 ? 2.0 : 1.0);
+            if (k > 0) {
+                int side = k - 1;
+                sides[side] = places[k][side % 2] + (side < 2 ? 0.0 : 1.0);
+            }
+            check.box(easel, 0, 0.0, sides);
+        }
+        easel.into(1, 0);
+        check.box(easel, 0, 0.0, -0.5, -0.75, 2.5, 2.25);
     }
 
     /** The root's box is not laid; a group's is, and the box of what is in it is told in the group. */

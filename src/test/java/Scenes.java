@@ -36,7 +36,7 @@ final class Scenes {
         return easel;
     }
 
-    /** All 14 nodes: in the root the groups 1, 5, 9, 13, the boxes 2, 6, 10, the discs 3, 7, 11, the wedges 4, 8, 12. */
+    /** All 14 nodes: in the root groups (1, 5, 9, 13), boxes (2, 6, 10), discs (3, 7, 11) and wedges (4, 8, 12). */
     static SceneEasel full() {
         SceneEasel easel = new SceneEasel();
         for (int n = 1; n < 14; n++) {
