@@ -1,4 +1,5 @@
 import java.util.NoSuchElementException;
+import java.util.function.Consumer;
 import java.util.function.Supplier;
 
 /** What the tests share: each answer is held against the one that is due. */
@@ -9,6 +10,7 @@ final class Check {
     }
 
     private final String name;
+    private String sentence = "";
     private int asked;
     private int wrong;
 
@@ -16,12 +18,26 @@ final class Check {
         this.name = name;
     }
 
+    /** One sentence of the document, in its own words, with the test that would fail if it were broken. */
+    void sentence(String words, Consumer<Check> test) {
+        int before = asked;
+        sentence = " \"" + words + "\"";
+        try {
+            test.accept(this);
+        } catch (RuntimeException e) {
+            // The other sentences are to be asked for all the same.
+            due("a call at " + e.getStackTrace()[0], e.getClass().getSimpleName(), "nothing thrown");
+        }
+        due("questions asked", asked > before, true);
+        sentence = "";
+    }
+
     /** Boxed numbers are compared, so that a zero with a sign is another number than zero. */
     void due(String call, Object got, Object want) {
         asked++;
         if (!got.equals(want)) {
             wrong++;
-            System.out.println(name + ": " + call + " answered " + got + ", due is " + want);
+            System.out.println(name + sentence + ": " + call + " answered " + got + ", due is " + want);
         }
     }
 
@@ -42,6 +58,21 @@ final class Check {
         SceneEasel easel = scene.get();
         due(call, outcome(easel, deed), want.getSimpleName());
         due("all that is seen behind " + call, Snapshot.of(easel), Snapshot.of(scene.get()));
+        SceneEasel painted = scene.get();
+        outcome(painted, deed);
+        due("all that is painted behind " + call, Snapshot.painted(painted), Snapshot.painted(scene.get()));
+    }
+
+    void fine(Supplier<SceneEasel> scene, String call, Deed deed) {
+        due(call, outcome(scene.get(), deed), "nothing thrown");
+    }
+
+    void has(SceneEasel easel, double a, double b, int top) {
+        due("top(" + a + ", " + b + ", 0.0)", easel.top(a, b, 0.0), top);
+    }
+
+    void hasNot(SceneEasel easel, double a, double b) {
+        nothingThere("top(" + a + ", " + b + ", 0.0)", easel, e -> e.top(a, b, 0.0));
     }
 
     /** For calls that must hold for any object, without looking at the rest. */

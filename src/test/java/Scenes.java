@@ -36,6 +36,62 @@ final class Scenes {
         return easel;
     }
 
+    /**
+     * In the root: mask 1 with box 2, disc 3 and the tiles 4 with wedge 5; the hidden group 6 with box 7; the groups
+     * 8 to 11, each in the one before, and box 12 in the last one, 5 deep. Disc 3 has two key frames for x and for y,
+     * three for the stretch and four for the colour. Painted once; number 13 is free.
+     */
+    static SceneEasel rich() {
+        SceneEasel easel = new SceneEasel();
+        int[] groups = {0, 1, 1, 1, 4, 0, 6, 0, 8, 9, 10, 11};
+        int[] kinds = {0, 1, 2, 0, 3, 0, 1, 0, 0, 0, 0, 1};
+        for (int k = 0; k < groups.length; k++) {
+            easel.node(groups[k], kinds[k], k + 1);
+        }
+        easel.place(1, 1.0, 1.0);
+        easel.mode(1, 1, 3.0);
+        easel.lengths(2, 7.0, 6.0);
+        easel.mode(4, 2, 2.5);
+        easel.lengths(5, 1.5, 2.0);
+        easel.lay(4, 1, 1);
+        easel.place(7, 0.5, 0.5);
+        easel.hide(6, true);
+        easel.place(8, 10.0, 9.0);
+        easel.lay(8, 3, 1);
+        easel.lengths(12, 2.0, 1.5);
+        for (int k = 0; k < 4; k++) {
+            if (k < 2) {
+                easel.key(3, 0, k * 10.0, 2.0 + k * 3.0);
+                easel.key(3, 1, k * 20.0, 1.0 + k * 4.0);
+            }
+            if (k < 3) {
+                easel.key(3, 2, k * 8.0, k - 1);
+            }
+            easel.key(3, 3, k * 5.0, 10.0 + k);
+        }
+        easel.paint(4.0);
+        return easel;
+    }
+
+    /** The root with one group in it, number 1, and as many boxes in that as are asked for, numbers 2 and on. */
+    static SceneEasel groupOf(int boxes) {
+        SceneEasel easel = new SceneEasel();
+        easel.node(0, 0, 1);
+        for (int k = 0; k < boxes; k++) {
+            easel.node(1, 1, 2);
+        }
+        return easel;
+    }
+
+    /** Groups 1 to the depth, each in the one before, the first one in the root. */
+    static SceneEasel chain(int depth) {
+        SceneEasel easel = new SceneEasel();
+        for (int k = 0; k < depth; k++) {
+            easel.node(k, 0, 1);
+        }
+        return easel;
+    }
+
     /** All 14 nodes: in the root groups (1, 5, 9, 13), boxes (2, 6, 10), discs (3, 7, 11) and wedges (4, 8, 12). */
     static SceneEasel full() {
         SceneEasel easel = new SceneEasel();

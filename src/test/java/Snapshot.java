@@ -1,8 +1,9 @@
-/** All that can be seen of an easel from outside without painting, as a text; it takes some 440 calls. */
+/** What can be seen of an easel from outside, as a text. */
 final class Snapshot {
     private Snapshot() {
     }
 
+    /** All that is seen without painting; it takes some 410 calls. */
     static String of(SceneEasel easel) {
         StringBuilder text = new StringBuilder();
         for (int what = 0; what < 4; what++) {
@@ -16,10 +17,24 @@ final class Snapshot {
             double b = k / 6 * 2.5 - 0.5;
             point(text, easel, a, b);
         }
+        cells(text, easel);
+        return text.toString();
+    }
+
+    /** What two pictures would be; it takes some 390 calls. */
+    static String painted(SceneEasel easel) {
+        StringBuilder text = new StringBuilder();
+        for (double time : new double[] {0.0, 12.0}) {
+            text.append("paint ").append(time).append(' ').append(easel.paint(time)).append('\n');
+            cells(text, easel);
+        }
+        return text.append(easel.count(2)).toString();
+    }
+
+    private static void cells(StringBuilder text, SceneEasel easel) {
         for (int k = 0; k < 192; k++) {
             text.append(easel.cell(k % 16, k / 16)).append(k % 16 == 15 ? '\n' : ' ');
         }
-        return text.toString();
     }
 
     private static void node(StringBuilder text, SceneEasel easel, int n) {
