@@ -170,7 +170,8 @@ final class EdgesOfFramesTest {
         for (int property = 2; property <= 3; property++) {
             SceneEasel easel = keyed(property, 8.0, 2.0, 16.0, 1.0, 32.0, 2.0);
             double[][] due = {{8.0, 2.0}, {12.0, 2.0}, {Math.nextDown(16.0), 2.0}, {16.0, 1.0},
-                {Math.nextUp(16.0), 1.0}, {24.0, 1.0}, {Math.nextDown(32.0), 1.0}, {32.0, 2.0}, {Math.nextUp(32.0), 2.0}};
+                {Math.nextUp(16.0), 1.0}, {24.0, 1.0}, {Math.nextDown(32.0), 1.0}, {32.0, 2.0},
+                {Math.nextUp(32.0), 2.0}};
             for (double[] one : due) {
                 check.due("property " + property + " at " + one[0], seen(easel, property, one[0]), one[1]);
             }

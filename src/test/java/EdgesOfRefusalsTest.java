@@ -6,6 +6,9 @@ final class EdgesOfRefusalsTest {
         check.sentence("or is of the wrong KIND", EdgesOfRefusalsTest::wrongKind);
         check.sentence("the ROOT too, but where it's said to be allowed", EdgesOfRefusalsTest::root);
         check.sentence("\"Bad\" is IllegalArgumentException: numbers out of range", EdgesOfRefusalsTest::badComesFirst);
+        check.sentence("No room, and what would make a GROUP its own: IllegalStateException.",
+                EdgesOfRefusalsTest::noRoom);
+        check.sentence("Nothing there: java.util.NoSuchElementException.", EdgesOfRefusalsTest::nothingThere);
         check.sentence("What throws has changed nothing.", EdgesOfRefusalsTest::halfRight);
         check.end();
     }
@@ -79,6 +82,31 @@ final class EdgesOfRefusalsTest {
         check.bad(Scenes::empty, "top(-1001.0, 0.0, 0.0), nothing there", e -> e.top(-1001.0, 0.0, 0.0));
         check.bad(Scenes::empty, "around(0, 4, 0.0), none there", e -> e.around(0, 4, 0.0));
         check.bad(Scenes::empty, "around(0, 0, -1.0), none there", e -> e.around(0, 0, -1.0));
+    }
+
+    /** Each with what is right beside it, where there is room. */
+    private static void noRoom(Check check) {
+        check.fine(Scenes::rich, "the 14th node", e -> e.node(0, 1, 1));
+        check.noRoom(Scenes::full, "the 15th node", e -> e.node(0, 1, 1));
+        check.fine(() -> Scenes.chain(4), "a node 5 deep", e -> e.node(4, 1, 1));
+        check.noRoom(() -> Scenes.chain(5), "a node 6 deep", e -> e.node(5, 1, 1));
+        check.fine(Scenes::rich, "the 4th key frame", e -> e.key(3, 2, 999.0, 1.0));
+        check.noRoom(Scenes::rich, "the 5th key frame", e -> e.key(3, 3, 999.0, 1.0));
+        check.fine(Scenes::rich, "a node moved 5 deep", e -> e.into(7, 11));
+        check.noRoom(Scenes::rich, "what is in a node moved 6 deep", e -> e.into(6, 11));
+        check.fine(Scenes::rich, "a group into the one it is in", e -> e.into(4, 1));
+        check.noRoom(Scenes::rich, "a group into itself", e -> e.into(4, 4));
+        check.noRoom(Scenes::rich, "a group into one in it", e -> e.into(1, 4));
+    }
+
+    /** Each with what is right beside it, where there is something. */
+    private static void nothingThere(Check check) {
+        check.fine(Scenes::rich, "unkey(3, 0)", e -> e.unkey(3, 0));
+        check.nothingThere(Scenes::rich, "unkey(2, 0)", e -> e.unkey(2, 0));
+        check.fine(() -> Scenes.groupOf(1), "top(1.0, 1.0, 0.0)", e -> e.top(1.0, 1.0, 0.0));
+        check.nothingThere(() -> Scenes.groupOf(1), "top(1.125, 1.0, 0.0)", e -> e.top(1.125, 1.0, 0.0));
+        check.fine(() -> Scenes.groupOf(1), "around(1, 0, 0.0)", e -> e.around(1, 0, 0.0));
+        check.nothingThere(() -> Scenes.groupOf(0), "around(1, 0, 0.0)", e -> e.around(1, 0, 0.0));
     }
 
     /** The right arguments of a wrong call must not be taken over; each of them would be seen. */
